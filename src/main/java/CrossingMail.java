@@ -48,7 +48,7 @@ public final class CrossingMail {
     private int bufferLength = 0;
     private int badOffset = NONE;
     private int badKind = 0;
-    private final Parser parser = new Parser(buffer);
+    private final Parser parser = new Parser();
     private final Timetable table = new Timetable();
     private final State state = new State();
     private final History history = new History();
@@ -91,7 +91,7 @@ public final class CrossingMail {
     }
 
     public int load() throws IllegalArgumentException {
-        boolean correct = parser.parse(bufferLength);
+        boolean correct = parser.parse(buffer, bufferLength);
         bufferLength = 0;
         badOffset = parser.offset;
         badKind = parser.kind;
@@ -436,7 +436,7 @@ public final class CrossingMail {
         if (state.letters.size >= MAX_LETTERS) {
             throw new IllegalStateException();
         }
-        history.record(state);
+        history.keep(state);
         return state.letters.add(from, to, value, state.time, arrivalFromOffice(from, to));
     }
 
@@ -444,7 +444,7 @@ public final class CrossingMail {
         if (hours < 1 || hours > WEEK) {
             throw new IllegalArgumentException();
         }
-        history.record(state);
+        history.keep(state);
         int arrived = 0;
         for (int done = 0; done < hours; done++) {
             arrived += hourWork.processHour(table, state);
@@ -454,14 +454,14 @@ public final class CrossingMail {
 
     public int lose(int carrier) throws IndexOutOfBoundsException {
         needIndex(carrier, table.carrierCount);
-        history.record(state);
+        history.keep(state);
         return state.loseSack(carrier);
     }
 
     public int find(int lost, int village) throws IndexOutOfBoundsException, IllegalArgumentException {
         needIndex(lost, state.lostSacks.size);
         needVillage(village);
-        history.record(state);
+        history.keep(state);
         return state.findSack(lost, village);
     }
 
@@ -472,14 +472,14 @@ public final class CrossingMail {
                 || state.time - state.lostSacks.hourOfLost(letters.where[letter]) < CLAIM_HOURS) {
             throw new IllegalStateException();
         }
-        history.record(state);
+        history.keep(state);
         letters.claimed[letter] = 1;
         return letters.value[letter];
     }
 
     public boolean strike(int carrier, boolean on) throws IndexOutOfBoundsException {
         needIndex(carrier, table.carrierCount);
-        history.record(state);
+        history.keep(state);
         boolean before = has(state.striking, carrier);
         state.striking = on ? state.striking | bit(carrier) : state.striking & ~bit(carrier);
         return before;
@@ -489,7 +489,7 @@ public final class CrossingMail {
         if (capacity < 1 || capacity > MAX_CAPACITY) {
             throw new IllegalArgumentException();
         }
-        history.record(state);
+        history.keep(state);
         int before = state.capacity;
         state.capacity = capacity;
         return before;
@@ -597,7 +597,8 @@ public final class CrossingMail {
         private final int[] routeDays = new int[MAX_CARRIERS];
         /** For each hour of the week and each place the set of the carriers that stop there. */
         private final int[] stops = new int[WEEK * MAX_PLACES];
-        private final boolean[] busy = new boolean[WEEK];
+        /** For each hour of the week the set of the places at which a carrier stops. */
+        private final int[] placesUsed = new int[WEEK];
 
         Timetable() {
         }
@@ -610,7 +611,7 @@ public final class CrossingMail {
                 stops[i] = 0;
             }
             for (int hour = 0; hour < WEEK; hour++) {
-                busy[hour] = false;
+                placesUsed[hour] = 0;
             }
         }
 
@@ -622,7 +623,7 @@ public final class CrossingMail {
             System.arraycopy(other.carrierNames, 0, carrierNames, 0, MAX_CARRIERS);
             System.arraycopy(other.routeDays, 0, routeDays, 0, MAX_CARRIERS);
             System.arraycopy(other.stops, 0, stops, 0, WEEK * MAX_PLACES);
-            System.arraycopy(other.busy, 0, busy, 0, WEEK);
+            System.arraycopy(other.placesUsed, 0, placesUsed, 0, WEEK);
         }
 
         void addPlace(int name, boolean village) {
@@ -661,7 +662,7 @@ public final class CrossingMail {
                 int at = day * DAY + hour;
                 if (has(days, day) && at >= 0 && at < WEEK && place >= 0 && place < MAX_PLACES) {
                     stops[at * MAX_PLACES + place] |= bit(carrierCount - 1);
-                    busy[at] = true;
+                    placesUsed[at] |= bit(place);
                 }
             }
         }
@@ -696,8 +697,9 @@ public final class CrossingMail {
             return carrier < 0 || carrier >= carrierCount ? 0 : carrierNames[carrier];
         }
 
-        boolean isBusy(int hour) {
-            return busy[Math.floorMod(hour, WEEK)];
+        /** The set of the places at which carriers stop in this hour, on strike or not. */
+        int placesAt(int hour) {
+            return placesUsed[Math.floorMod(hour, WEEK)];
         }
 
         /** The set of the carriers that stop at the place in this hour, on strike or not. */
@@ -1097,7 +1099,7 @@ public final class CrossingMail {
             depth = 0;
         }
 
-        void record(State state) {
+        void keep(State state) {
             State slot = slotAt(next);
             if (slot != null) {
                 slot.copyFrom(state);
@@ -1145,16 +1147,17 @@ public final class CrossingMail {
         /** Looks at the hours from this one on, until all the wanted villages are reached. */
         void follow(Timetable table, int working, int hour, int hours, int wanted) {
             for (int step = 0; step < hours && (offices & wanted) != wanted; step++) {
-                if (table.isBusy(hour + step)) {
-                    lookAt(table, working, hour + step);
+                int places = table.placesAt(hour + step);
+                if (places != 0) {
+                    lookAt(table, working, hour + step, places);
                 }
             }
         }
 
         /** A carrier is at one place in an hour, so the places can be looked at one by one. */
-        private void lookAt(Timetable table, int working, int hour) {
-            for (int place = 0; place < table.placeCount && place < MAX_PLACES; place++) {
-                int group = table.carriersStopping(hour, place) & working;
+        private void lookAt(Timetable table, int working, int hour, int places) {
+            for (int place = 0; place < MAX_PLACES; place++) {
+                int group = has(places, place) ? table.carriersStopping(hour, place) & working : 0;
                 if (group == 0) {
                     continue;
                 }
@@ -1357,14 +1360,13 @@ public final class CrossingMail {
         /** The error; NONE and 0 if there is none. */
         int offset = NONE;
         int kind = 0;
-        private final int[] text;
+        private int[] text = new int[0];
         private int end = 0;
         private int at = 0;
         /** The first byte of the latest word or number. */
         private int start = 0;
 
-        Parser(int[] itsText) {
-            text = itsText;
+        Parser() {
         }
 
         /** A name as a number, not 0, five bits a letter; 0 if these bytes are not a name. */
@@ -1382,13 +1384,8 @@ public final class CrossingMail {
             return name;
         }
 
-        boolean parse(int length) {
-            table.clear();
-            state.clear();
-            offset = NONE;
-            kind = 0;
-            end = Math.max(0, Math.min(length, text.length));
-            at = 0;
+        boolean parse(int[] bytes, int length) {
+            begin(bytes, length);
             // A line takes at least one byte, so there are no more lines than bytes.
             for (int lines = 0; lines <= end; lines++) {
                 boolean correct;
@@ -1415,6 +1412,18 @@ public final class CrossingMail {
                 }
             }
             return true;
+        }
+
+        private void begin(int[] bytes, int length) {
+            table.clear();
+            state.clear();
+            offset = NONE;
+            kind = 0;
+            if (bytes != null) {
+                text = bytes;
+            }
+            end = Math.max(0, Math.min(length, text.length));
+            at = 0;
         }
 
         private boolean fail(int itsKind, int itsOffset) {

@@ -27,7 +27,7 @@ public final class SlowMail {
         }
     }
 
-    static final class Piece implements Cloneable {
+    static final class Piece {
         int from;
         int to;
         int value;
