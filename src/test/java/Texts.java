@@ -85,4 +85,28 @@ final class Texts {
         }
         return text.toString();
     }
+
+    /** All that undo restores, as a text. */
+    static String snapshot(CrossingMail mail) {
+        StringBuilder text = new StringBuilder();
+        for (int what = 0; what < 9; what++) {
+            text.append(mail.count(what)).append(' ').append(mail.letters(what)).append(' ');
+        }
+        for (int carrier = 0; carrier < mail.count(2); carrier++) {
+            text.append("carrier ").append(mail.sackOf(carrier)).append(mail.isOnStrike(carrier)).append(' ');
+        }
+        for (int letter = 0; letter < mail.count(3); letter++) {
+            text.append("letter ").append(mail.trace(letter));
+            for (int what = 0; what < 9; what++) {
+                text.append(' ').append(mail.letter(letter, what));
+            }
+        }
+        for (int lost = 0; lost < mail.count(4); lost++) {
+            text.append("lost ").append(mail.lostSack(lost, 0)).append(' ').append(mail.lostSack(lost, 1));
+        }
+        for (int ago = 0; ago < mail.count(5); ago++) {
+            text.append("receipt ").append(receiptText(mail, ago));
+        }
+        return text.toString();
+    }
 }
