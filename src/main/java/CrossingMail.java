@@ -1224,7 +1224,11 @@ public final class CrossingMail {
                 int group = table.carriersStopping(state.time, place) & ~state.striking;
                 if (table.hasOffice(place) && group != 0) {
                     arrived += takeOut(state, place, group);
-                    sortLetters(table, state, place, group);
+                    int wanted = wantedVillages(state);
+                    if (wanted != 0) {
+                        foresee(table, state, place, group, wanted);
+                        putAllAway(state, place, group);
+                    }
                 }
             }
             state.time++;
@@ -1264,7 +1268,8 @@ public final class CrossingMail {
             return arrived;
         }
 
-        private void sortLetters(Timetable table, State state, int place, int group) {
+        /** The set of the villages to which the letters go that are not handed out here. */
+        private int wantedVillages(State state) {
             Letters letters = state.letters;
             int wanted = 0;
             for (int i = 0; i < letters.size && i < MAX_LETTERS; i++) {
@@ -1272,15 +1277,7 @@ public final class CrossingMail {
                     wanted |= bit(letters.to[i]);
                 }
             }
-            if (wanted == 0) {
-                return;
-            }
-            foresee(table, state, place, group, wanted);
-            for (int i = 0; i < letters.size && i < MAX_LETTERS; i++) {
-                if (origins[i] != ELSEWHERE) {
-                    putAway(state, i, place, chooseCarrier(state, group, letters.to[i]));
-                }
-            }
+            return wanted;
         }
 
         /** Finds the arrivals by each sack here and by waiting, and empties the sacks. */
@@ -1311,6 +1308,15 @@ public final class CrossingMail {
                 return NONE;
             }
             return arrivals[way * MAX_PLACES + place];
+        }
+
+        private void putAllAway(State state, int place, int group) {
+            Letters letters = state.letters;
+            for (int i = 0; i < letters.size && i < MAX_LETTERS; i++) {
+                if (origins[i] != ELSEWHERE) {
+                    putAway(state, i, place, chooseCarrier(state, group, letters.to[i]));
+                }
+            }
         }
 
         /** The carrier whose sack a letter to this village takes; NONE if it is in the office. */
@@ -1365,6 +1371,8 @@ public final class CrossingMail {
         private int at = 0;
         /** The first byte of the latest word or number. */
         private int start = 0;
+        /** The weekdays of the latest route. */
+        private int days = 0;
 
         Parser() {
         }
@@ -1399,7 +1407,7 @@ public final class CrossingMail {
                 } else if (isWord("carrier")) {
                     correct = readCarrier();
                 } else if (isWord("route")) {
-                    correct = readRoute();
+                    correct = readDays() && readStops();
                 } else if (isWord("capacity")) {
                     correct = readCapacity();
                 } else if (isWord("letter")) {
@@ -1462,11 +1470,11 @@ public final class CrossingMail {
             return true;
         }
 
-        private boolean readRoute() {
+        private boolean readDays() {
             if (table.carrierCount == 0) {
                 return fail(SYNTAX, start);
             }
-            int days = readNumber(1, 127);
+            days = readNumber(1, 127);
             if (days == NONE) {
                 return false;
             }
@@ -1474,10 +1482,10 @@ public final class CrossingMail {
                 return fail(BAD_NUMBER, start);
             }
             table.addRouteDays(days);
-            return readStops(days);
+            return true;
         }
 
-        private boolean readStops(int days) {
+        private boolean readStops() {
             int hour = NONE;
             for (int stops = 0; stops <= MAX_STOPS; stops++) {
                 skipBlanks();

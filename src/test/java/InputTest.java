@@ -117,6 +117,13 @@ public final class InputTest {
         Check.that("the formatted text stays", Texts.formatted(mail), "tom: 1 2*");
         Check.that("no places at all", Texts.load(mail, ""), 0);
         Check.that("no carriers at all", mail.count(2), 0);
+        Texts.load(mail, "capacity 3;");
+        Texts.load(mail, "village a;village b;");
+        Check.that("the capacity of the text before does not stay", mail.count(6), 8);
+        mail.run(5);
+        mail.post(0, 1, 9);
+        Texts.load(mail, "village a;village b;letter b a;");
+        Check.that("letters of the text are posted at time 0", mail.letter(0, 5) + " " + mail.letter(0, 2), "0 0");
     }
 
     private static void failedLoadChangesNothing() {

@@ -20,6 +20,7 @@ public final class LettersTest {
         punctuality();
         fastestSack();
         lowestSackOfSeveral();
+        lowestSackWithoutSwap();
         fullSacks();
         sackOrOffice();
         wrongNumbers();
@@ -198,6 +199,8 @@ public final class LettersTest {
         Check.that("a letter claimed", numbers(mail), "1 0 1 2 2 2 1 1 3");
         mail.find(0, 3);
         Check.that("letters found", numbers(mail), "1 0 3 0 2 2 1 1 3");
+        mail.post(0, 1, 9);
+        Check.that("three insured ones of five", numbers(mail), "2 0 3 0 3 2 2 1 3");
         Check.refuses("letters(-1)", NoSuchElementException.class, () -> mail.letters(-1));
         Check.refuses("letters(9)", NoSuchElementException.class, () -> mail.letters(9));
     }
@@ -239,6 +242,13 @@ public final class LettersTest {
         strike.strike(1, true);
         strike.run(9);
         Check.that("a carrier on strike is not here", strike.letter(0, 4) + " " + strike.trace(0), "0 1");
+        CrossingMail higher = Texts.loaded(ABH + "carrier p;route 127 6 x 8 a 10 b;carrier q;route 127 6 x 8 a 12 b;"
+            + "letter a b;");
+        higher.run(9);
+        Check.that("the faster sack has the higher number", higher.letter(0, 4) + " " + higher.trace(0), "1 1");
+        CrossingMail next = Texts.loaded(ABH + "carrier p;route 127 8 a 9 b;carrier q;route 127 10 a 11 b;letter a b;");
+        next.run(9);
+        Check.that("the very next hour is looked at", next.letter(0, 3) + " " + next.letter(0, 4), "1 0");
     }
 
     private static void lowestSackOfSeveral() {
@@ -248,6 +258,13 @@ public final class LettersTest {
         Check.that("the lowest sack is with the other carrier", mail.letter(0, 4) + " " + mail.trace(0), "0 2");
         Check.that("the next one gets the next sack", mail.letter(1, 4) + " " + mail.trace(1), "1 1");
         Check.that("the last one has no room", mail.letter(2, 3) + " " + mail.trace(2), "0 0");
+    }
+
+    private static void lowestSackWithoutSwap() {
+        CrossingMail mail = Texts.loaded(ABH + "carrier p;route 127 8 a 12 b;carrier q;route 127 8 a 12 b;"
+            + "carrier r;route 127 8 a 12 b;letter a b;");
+        mail.run(9);
+        Check.that("the lowest of three", mail.letter(0, 4) + " " + mail.trace(0), "0 1");
     }
 
     private static void fullSacks() {

@@ -81,8 +81,8 @@ public final class PlacesTest {
 
     private static void placeNamed() {
         CrossingMail mail = Texts.loaded("village a;crossing ab;village abcdef;carrier tom;");
-        String[] names = {"a", "ab", "abcdef", "b", "tom", "", "A", "abcde", "abcdefg", "a ", " a", "ab;", "\0a", "a1"};
-        int[] places = {0, 1, 2, -1, -1, -1, -1, -1, -1, -1, -1, -1, -1, -1};
+        String[] names = {"a", "ab", "abcdef", "b", "tom", "", "A", "abcde", "abcdefg", "a ", " a", "ab;", "\0a", "a1", "`a", "``a"};
+        int[] places = {0, 1, 2, -1, -1, -1, -1, -1, -1, -1, -1, -1, -1, -1, -1, -1};
         for (int i = 0; i < names.length; i++) {
             Texts.fill(mail, names[i]);
             Check.that("place named '" + names[i] + "'", mail.placeNamed(), places[i]);

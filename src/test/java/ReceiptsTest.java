@@ -183,5 +183,15 @@ public final class ReceiptsTest {
         Check.that("the one behind it moves up", mail.lostSack(0, 0) + " " + mail.lostSack(0, 1) + " "
             + mail.lostSack(0, 2) + " " + mail.lostSack(0, 3), "0 11 1 7");
         Check.refuses("only one is left", IndexOutOfBoundsException.class, () -> mail.lostSack(1, 0));
+        mail.undo();
+        Check.that("undo brings both back", mail.lostSack(0, 1) + " " + mail.lostSack(0, 3) + " " + mail.lostSack(1, 1)
+            + " " + mail.lostSack(1, 3), "10 50 11 7");
+        CrossingMail two = Texts.loaded(Texts.VALLEY);
+        two.run(10);
+        two.lose(0);
+        two.lose(1);
+        two.find(0, 0);
+        two.undo();
+        Check.that("both carriers are back", two.lostSack(0, 0) + " " + two.lostSack(1, 0), "0 1");
     }
 }
