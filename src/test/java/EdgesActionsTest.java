@@ -437,6 +437,15 @@ public final class EdgesActionsTest {
         mail.undo();
         Edge.that("a strike that goes on", mail.isOnStrike(0) + " " + mail.undoDepth(), "true 4");
         Edge.says(45, "The methods post, run, lose, find, claim, strike and setCapacity are undoable actions.");
+        String before = Texts.snapshot(mail);
+        Check.Call[] questions = {() -> mail.append(0, 0, 0, 0, 0), () -> mail.truncate(1), () -> mail.placeNamed(),
+            () -> mail.nextStop(0), () -> mail.meetings(), () -> mail.punctuality(), () -> mail.promise(0, 1),
+            () -> mail.promisedDays(0, 1), () -> mail.reach(0), () -> mail.bestWait(0, 1), () -> mail.formatCarrier(0),
+            () -> mail.formattedByte(0), () -> mail.errorKind(), () -> mail.undoDepth()};
+        for (int i = 0; i < questions.length; i++) {
+            Check.outcome(questions[i]);
+            Edge.that("no action is question " + i, mail.undoDepth() + Texts.snapshot(mail), 4 + before);
+        }
         CrossingMail all = Texts.loaded(DAILY + "letter a b insured 1;");
         all.run(2);
         all.lose(0);

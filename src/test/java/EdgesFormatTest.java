@@ -75,15 +75,15 @@ public final class EdgesFormatTest {
     private static void formatFullCarrier() {
         Edge.says(47, "for each letter in it, by number, a space and the number of the letter");
         CrossingMail mail = Texts.loaded(LONG + "capacity 20;" + "letter abcdef zyxwvu;".repeat(2)
-            + "letter zyxwvu abcdef;".repeat(8));
+            + "letter zyxwvu abcdef;".repeat(7) + "letter abcdef zyxwvu;");
         for (int letter = 10; letter < 28; letter++) {
             mail.post(0, 1, letter < 20 ? 0 : 1);
         }
         mail.run(2);
         Edge.that("twenty, of one digit and of two", Texts.carrierText(mail, 0),
-            "qwerty: 0 0 1 10 11 12 13 14 15 16 17 18 19 20* 21* 22* 23* 24* 25* 26* 27*");
+            "qwerty: 0 0 1 9 10 11 12 13 14 15 16 17 18 19 20* 21* 22* 23* 24* 25* 26*");
         Edge.says(47, "Returns the length of the text.");
-        Edge.that("length", mail.formatCarrier(0), 9 + 2 * 2 + 10 * 3 + 8 * 4);
+        Edge.that("length", mail.formatCarrier(0), 9 + 3 * 2 + 10 * 3 + 7 * 4);
         CrossingMail most = Texts.loaded(LONG + "capacity 20;" + "letter zyxwvu abcdef;".repeat(10));
         for (int letter = 10; letter < 30; letter++) {
             most.post(0, 1, 999);

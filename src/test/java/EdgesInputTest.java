@@ -48,6 +48,9 @@ public final class EdgesInputTest {
         Edge.that("places, carriers, capacity", mail.count(0) + " " + mail.count(2) + " " + mail.count(6), "0 0 8");
         Edge.that("buffer", mail.truncate(1) + " " + mail.truncate(0), "false true");
         Edge.that("loading the empty buffer", new CrossingMail().load(), 0);
+        for (int what = 0; what < 9; what++) {
+            Edge.that("count " + what, mail.count(what) + " " + mail.letters(what), (what == 6 ? 8 : 0) + " 0");
+        }
         Edge.says(1, "Time is counted in hours from 0");
         Edge.that("time", mail.count(7), 0);
         Edge.says(1, "An object is used for at most 512 calls after it has been made");
@@ -133,11 +136,16 @@ public final class EdgesInputTest {
         Edge.wrong(CrossingMail.SYNTAX, "village a;" + " ".repeat(889) + "^,");
         Edge.wrong(CrossingMail.SYNTAX, "village a;" + " ".repeat(882) + "^villages");
         Edge.wrong(CrossingMail.SYNTAX, "village a" + " ".repeat(891) + "^");
-        mail = Texts.loaded("village ab;village b;");
-        Texts.fill(mail, "village abcdef;village b;");
-        mail.truncate(10);
-        Edge.that("what stood behind the text is not read", Check.outcome(mail::load) + " " + mail.errorOffset(),
-            "IllegalArgumentException 10");
+        Edge.wrong(CrossingMail.SYNTAX, "village a;" + " ".repeat(876) + "village abcdef^");
+        Edge.wrong(CrossingMail.BAD_NAME, "village a;" + " ".repeat(881) + "village ^a");
+        Edge.wrong(CrossingMail.BAD_NUMBER, " ".repeat(887) + "capacity\t\t^999");
+        for (int cut : new int[] {9, 10, 18, 19, 20, 21, 22, 23, 24}) {
+            Texts.fill(mail, "village a;capacity 12  ;");
+            mail.truncate(cut);
+            Check.outcome(mail::load);
+            Edge.that("what stands behind the first " + cut + " bytes is not read", mail.errorOffset(),
+                cut == 10 || cut == 24 ? -1 : cut);
+        }
     }
 
     private static void linesOfAText() {
@@ -206,8 +214,20 @@ public final class EdgesInputTest {
             }
         }
         Edge.wrong(CrossingMail.SYNTAX, "^villagea;");
-        Edge.wrong(CrossingMail.SYNTAX, "^capacit 5;");
-        Edge.wrong(CrossingMail.SYNTAX, "^capacityy 5;");
+        String[][] lines = {{"", "village", " c;"}, {"", "crossing", " c;"}, {"", "carrier", " c;"}, {"", "route", " 1 2 a;"},
+            {"", "capacity", " 5;"}, {"", "letter", " a b;"}, {"letter a b ", "insured", " 5;"}};
+        String start = THREE + "carrier k;";
+        for (String[] line : lines) {
+            String keyword = line[1];
+            Edge.correct(start + line[0] + keyword + line[2]);
+            Edge.wrong(CrossingMail.SYNTAX, start + line[0] + "^" + keyword + "a" + line[2]);
+            Edge.wrong(CrossingMail.SYNTAX, start + line[0] + "^a" + keyword + line[2]);
+            for (int at = 0; at < keyword.length(); at++) {
+                String before = start + line[0] + "^" + keyword.substring(0, at);
+                Edge.wrong(CrossingMail.SYNTAX, before + "x" + keyword.substring(at + 1) + line[2]);
+                Edge.wrong(CrossingMail.SYNTAX, before + keyword.substring(at + 1) + line[2]);
+            }
+        }
         Edge.wrong(CrossingMail.SYNTAX, "^Village a;");
         Edge.wrong(CrossingMail.SYNTAX, "^" + "v".repeat(899) + ";");
     }
@@ -492,6 +512,7 @@ public final class EdgesInputTest {
         mail.run(11);
         mail.lose(1);
         mail.strike(0, true);
+        mail.post(1, 0, 77);
         mail.setCapacity(5);
         mail.formatCarrier(0);
         return mail;
@@ -499,12 +520,18 @@ public final class EdgesInputTest {
 
     private static void loadReplaces() {
         CrossingMail mail = busy();
-        String text = "village p;village q;carrier k;route 4 1 p;carrier l;letter p q insured 3;";
+        String text = "village p;village q;carrier k;route 4 1 p;carrier l;letter p q insured 3;" + "letter p q;".repeat(3);
         int places = Texts.load(mail, text);
         Edge.says(4, "Parses the input buffer as a text and replaces everything by it");
         Edge.that("as in a new object", places + Texts.snapshot(mail), 2 + Texts.snapshot(Texts.loaded(text)));
         Edge.that("no old stops", mail.stop(0, 0, 0) + " " + mail.stop(0, 2, 0) + " " + mail.stop(1, 0, 0), "-1 100 -1");
         Edge.that("no old names", Texts.carrierText(mail, 1), "l: 1");
+        Edge.that("the last letter was posted at 0", mail.letter(3, 5) + " " + mail.letter(3, 2), "0 0");
+        CrossingMail stops = Texts.loaded("village a;carrier k;route 127 0 a 23 a;");
+        Texts.load(stops, "village a;carrier k;route 127 1 a;");
+        for (int day = 0; day < 7; day++) {
+            Edge.that("no old stops on day " + day, stops.stop(0, day, 0) + " " + stops.stop(0, day, 1), "100 -1");
+        }
         Edge.says(4, "the time is 0, no carrier is on strike, and no action can be undone");
         mail = busy();
         Texts.load(mail, Texts.VALLEY);
@@ -537,7 +564,7 @@ public final class EdgesInputTest {
             Edge.that("the routes", mail.stop(0, 2, 0) + " " + mail.isVillage(1), "800 true");
             Edge.that("the formatted text", Texts.formatted(mail), "tom: 1 2*");
             Edge.that("the names", Texts.carrierText(mail, 1), "ann: 0");
-            Edge.that("the actions", mail.undoDepth(), 4);
+            Edge.that("the actions", mail.undoDepth(), 5);
             mail.undo();
             Edge.that("and what they restore", mail.count(6), 8);
         }

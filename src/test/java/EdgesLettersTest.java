@@ -310,6 +310,9 @@ public final class EdgesLettersTest {
         CrossingMail passed = Texts.loaded(MEETING + "carrier k;route 127 1 a 5 b;carrier l;route 127 1 a 4 c 6 b;letter a b;");
         passed.run(6);
         Edge.that("a sack that it could have taken does not count", passed.letter(0, 3) + " " + passed.trace(0), "2 1");
+        CrossingMail change = Texts.loaded(MEETING + "carrier k;route 127 1 a 2 c;carrier l;route 127 2 c 3 b;letter a b;");
+        change.run(4);
+        Edge.that("changed at a village", change.letter(0, 3) + " " + change.trace(0) + " " + change.letters(8), "2 3 1");
         CrossingMail first = Texts.loaded(MEETING + "carrier k;route 127 1 a 2 b;letter a b;");
         first.run(2);
         Edge.that("carrier 0", first.trace(0), 1);
@@ -461,6 +464,9 @@ public final class EdgesLettersTest {
         Edge.that("one of two", mail.punctuality(), 0.5);
         mail.run(2);
         Edge.that("one of three", mail.punctuality(), 1.0 / 3.0);
+        CrossingMail most = Texts.loaded(AB + "capacity 20;carrier k;route 127 1 a 2 b;" + "letter a b;".repeat(30));
+        most.run(48);
+        Edge.that("thirty letters", most.letters(2) + " " + most.punctuality(), "30 " + 20.0 / 30.0);
         CrossingMail late = Texts.loaded(AB + "carrier k;route 127 1 a 2 b;letter a b;");
         late.strike(0, true);
         late.run(3);

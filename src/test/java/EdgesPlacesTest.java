@@ -207,6 +207,12 @@ public final class EdgesPlacesTest {
         }
         Edge.that("900 letters", named(mail, "a".repeat(900)), -1);
         Edge.that("no places", named(new CrossingMail(), "a") + " " + named(new CrossingMail(), ""), "-1 -1");
+        CrossingMail twice = Texts.loaded("village aa;village a;village aaa;village z;");
+        for (char sign = 0; sign < 256; sign++) {
+            Edge.that("byte " + (int) sign, named(twice, "" + sign), sign == 'a' ? 1 : sign == 'z' ? 3 : -1);
+            Edge.that("byte " + (int) sign + " before a", named(twice, sign + "a"), sign == 'a' ? 0 : -1);
+            Edge.that("byte " + (int) sign + " behind a", named(twice, "a" + sign), sign == 'a' ? 0 : -1);
+        }
         Texts.fill(mail, "village i;village");
         Check.outcome(mail::load);
         Edge.that("a name of a text that was wrong", named(mail, "i") + " " + named(mail, "a"), "-1 0");

@@ -130,6 +130,12 @@ public final class EdgesPromisesTest {
         CrossingMail chain = Texts.loaded(AB + "crossing x;carrier k;route 127 3 x 4 b;carrier l;route 127 2 x 3 x;"
             + "carrier m;route 127 1 a 2 x;");
         Edge.that("the last one's sack goes to the one before it, and on", chain.promise(0, 1), 4);
+        CrossingMail set = Texts.loaded(AB + "crossing x;carrier k;route 127 2 x;carrier l;route 127 1 a 5 b;carrier m;"
+            + "route 127 1 a 2 x;");
+        Edge.that("a sack in the set that is not swapped stays in it", set.promise(0, 1), 5);
+        CrossingMail all = Texts.loaded(AB + "crossing x;carrier k;route 127 1 a 2 x;carrier l;route 127 1 a 2 x 3 b;carrier m;"
+            + "route 127 1 a 2 x;");
+        Edge.that("sacks in the set that are swapped among themselves", all.promise(0, 1), 3);
         CrossingMail village = Texts.loaded(AB + "village x;carrier k;route 127 1 a 2 x 3 b;carrier l;route 127 2 x;");
         Edge.that("no swap at a village", village.promise(0, 1), 3);
         CrossingMail alone = Texts.loaded(AB + "crossing x;carrier k;route 127 1 a 2 x 3 b;");

@@ -170,6 +170,17 @@ public final class EdgesReceiptsTest {
         mail.undo();
         mail.undo();
         Edge.that("sixty again", mail.count(5) + " " + Texts.receiptText(mail, 59), "60 1 0 0 0 0");
+        String before = receipts(mail);
+        mail.setCapacity(20);
+        mail.run(1);
+        mail.lose(0);
+        mail.find(0, 1);
+        Edge.that("sixty others", mail.count(5) + " " + Texts.receiptText(mail, 59) + ", " + Texts.receiptText(mail, 0),
+            "60 25 0 0 0 0, 26 19 5 -1 1");
+        for (int i = 0; i < 4; i++) {
+            mail.undo();
+        }
+        Edge.that("the sixty before them again", receipts(mail), before);
     }
 
     private static void whatOfReceipt() {
@@ -288,6 +299,16 @@ public final class EdgesReceiptsTest {
             + mail.lostSack(0, 2) + " " + mail.lostSack(0, 3), "2 3 3 1000");
         mail.run(100);
         Edge.that("later", mail.lostSack(0, 1) + " " + mail.lostSack(0, 2), "3 3");
+        CrossingMail two = Texts.loaded(ABH + "carrier k;route 127 1 a 2 b;carrier l;route 127 1 h 2 b;letter a b insured 5;"
+            + "letter h b insured 6;");
+        two.run(2);
+        two.lose(1);
+        two.lose(0);
+        two.find(0, 0);
+        Edge.that("behind one that was found", two.lostSack(0, 0) + " " + two.lostSack(0, 3), "0 5");
+        two.undo();
+        Edge.that("undone", two.lostSack(0, 0) + " " + two.lostSack(0, 3) + " " + two.lostSack(1, 0) + " "
+            + two.lostSack(1, 3), "1 6 0 5");
         CrossingMail most = Texts.loaded(DAILY + "letter a b insured 999;".repeat(20));
         most.run(2);
         most.lose(0);

@@ -108,6 +108,30 @@ public final class OracleTest {
         return text.length() <= 900 ? text.toString() : text.substring(0, 900);
     }
 
+    /** A text with as many places, carriers, stops and letters as there can be. */
+    private String fullText() {
+        StringBuilder text = new StringBuilder("capacity 20;");
+        List<String> names = new ArrayList<>();
+        for (int p = 0; p < 10; p++) {
+            names.add("" + (char) ('a' + p));
+            text.append(p < 3 || draw(2) == 0 ? "village " : "crossing ").append(names.get(p)).append(';');
+        }
+        for (int c = 0; c < 5; c++) {
+            text.append("carrier k").append((char) ('a' + c)).append(";route 127");
+            for (int s = 0; s < 6; s++) {
+                text.append(' ').append(4 * s + draw(s == 0 || s == 5 ? 3 : 4)).append(' ');
+                text.append(names.get(draw(draw(2) == 0 ? 4 : 10)));
+            }
+            text.append(';');
+        }
+        for (int i = 0; i < 30; i++) {
+            int from = draw(3);
+            text.append("letter ").append(names.get(from)).append(' ').append(names.get((from + draw(1, 2)) % 3));
+            text.append(i % 2 == 0 ? ";" : " insured" + draw(1, 9) + ";");
+        }
+        return text.toString();
+    }
+
     private void routes(StringBuilder text, List<String> names, int days, int c) {
         text.append("route ").append(days);
         int hour = draw(0, 9);
@@ -208,7 +232,8 @@ public final class OracleTest {
         int[] most = new int[2];
         Class<?>[] types = SLOW.get(name).getParameterTypes();
         most[0] = name.startsWith("l") || name.startsWith("form") ? slow.count(3) : 6;
-        most[1] = name.equals("promise") || name.equals("promisedDays") ? 6 : 9;
+        boolean journey = name.equals("promise") || name.equals("promisedDays");
+        most[1] = journey ? 6 : name.endsWith("Letter") ? 30 : 9;
         least[0] = most[0] > 6 ? 0 : -1;
         if (types.length == 0) {
             call(name);
@@ -239,10 +264,13 @@ public final class OracleTest {
         }
     }
 
-    private boolean play(int acts) {
-        String text = text();
+    private boolean play(int acts, boolean full) {
+        String text = full ? fullText() : text();
         fill(text);
-        call("load");
+        Object places = call("load");
+        if (full && !places.equals(10)) {
+            return false;
+        }
         if (draw(6) == 0) {
             fill(spoilt(text()));
             call("load");
@@ -277,7 +305,8 @@ public final class OracleTest {
     public static void main(String[] args) {
         int games = args.length > 0 ? Integer.parseInt(args[0]) : 120;
         for (int game = 0; game < games; game++) {
-            Check.that("game " + game, new OracleTest(game).play(40), true);
+            Check.that("game " + game, new OracleTest(game).play(40, false), true);
+            Check.that("full game " + game, new OracleTest(200000 + game).play(game % 4 == 0 ? 40 : 8, true), true);
             Check.that("texts " + game, new OracleTest(100000 + game).readTexts(60), true);
         }
         Check.done("OracleTest");
