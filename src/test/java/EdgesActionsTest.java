@@ -14,6 +14,7 @@ public final class EdgesActionsTest {
         postedNow();
         wrongCarriers();
         loseSack();
+        loseNumber();
         loseEmptySack();
         findSack();
         findWrongly();
@@ -135,6 +136,18 @@ public final class EdgesActionsTest {
         CrossingMail swap = Texts.loaded(AB + "crossing x;carrier k;route 127 1 a 2 x;carrier l;route 127 2 x 9 b;letter a b;");
         swap.run(3);
         Edge.that("the sack that the carrier has now", swap.lose(0) + " " + swap.lose(1) + " " + swap.sackOf(1), "0 1 0");
+    }
+
+    private static void loseNumber() {
+        Edge.says(39, "Returns the number of letters in it.");
+        CrossingMail mail = Texts.loaded(AB + "capacity 20;carrier k;route 127 1 a 2 b;" + "letter a b;".repeat(21));
+        mail.run(2);
+        mail.strike(0, true);
+        mail.setCapacity(1);
+        Edge.that("twenty, of a carrier on strike and above the capacity", mail.lose(0) + " " + mail.lose(0), "20 0");
+        mail.strike(0, false);
+        mail.run(24);
+        Edge.that("one", mail.lose(0), 1);
     }
 
     private static void loseEmptySack() {

@@ -136,6 +136,18 @@ public final class EdgesLettersTest {
         mail.lose(0);
         Edge.says(17, "the carrier has an empty sack with the same number");
         Edge.that("after a loss", sacks(mail) + " " + carriers(mail), "21430 41032");
+        Edge.says(17, "Each carrier always has just one sack");
+        CrossingMail week = Texts.loaded("crossing x;crossing y;carrier k;route 127 1 x 3 y;carrier l;route 85 1 x 2 x 4 y;"
+            + "carrier m;route 127 1 y 2 x 3 y 4 y;carrier n;route 106 1 y 2 x 3 x;carrier o;route 31 1 x 3 x 4 y;");
+        for (int hour = 0; hour < 168; hour++) {
+            week.run(1);
+            StringBuilder own = new StringBuilder();
+            for (int carrier = 0; carrier < 5; carrier++) {
+                own.append(week.carrierOf(week.sackOf(carrier)));
+            }
+            Edge.that("five carriers, five sacks, at " + hour, own.toString(), "01234");
+        }
+        Edge.that("swaps in this week", week.count(8) > 20, true);
     }
 
     private static String letterNumbers(CrossingMail mail, int sack, int most) {
